@@ -1,36 +1,12 @@
 /**
  * Each promise by written-out answers: what is ordinary, the edges that the document names, and
- * wrong calls. The answers were worked out from the document, not taken from the program.
+ * wrong calls. The answers come from the document, worked out by hand or by
+ * PlainModel; none is taken from the program.
  */
 public final class PromiseTests {
     private static final Class<IllegalArgumentException> NO_CARD = IllegalArgumentException.class;
     private static final Class<IllegalStateException> NOT_NOW = IllegalStateException.class;
     private static final Class<IndexOutOfBoundsException> NOBODY = IndexOutOfBoundsException.class;
-
-    /** The archivist 0 wins, 110 to 100, with 8 tricks to 13; provenance 0 is trumps. */
-    private static final int[] GAME_27 = {
-        2, 4, 9, 8, 12, 5, 1, 19, 18, 22, 13, 21, 27, 24, 23, 16, 3, 6, 25, 17, 20, 7,
-        28, 26, 10, 29, 30, 31, 14, 15, 11, 0, 32, 33, 36, 34, 35, 38, 37, 40, 39, 41};
-
-    /** The archivist 1 wins, 145 to 65, and has to lead mildew; provenance 1 is trumps. */
-    private static final int[] GAME_18 = {
-        4, 18, 0, 8, 19, 9, 16, 12, 15, 21, 1, 26, 2, 11, 20, 6, 30, 13, 23, 17, 7, 24,
-        31, 22, 33, 5, 32, 3, 34, 10, 25, 14, 35, 37, 36, 38, 39, 27, 40, 28, 29, 41};
-
-    /** Mildew is led to a trump and another card; provenance 0 is trumps. */
-    private static final int[] GAME_28 = {
-        30, 33, 28, 31, 19, 29, 16, 25, 15, 38, 11, 36, 23, 26, 18, 39, 10, 24, 9, 22, 6, 20,
-        7, 35, 32, 21, 27, 17, 34, 14, 37, 8, 13, 5, 2, 4, 0, 3, 41, 12, 1, 40};
-
-    /** Nobody wins: both have 105; provenance 3 is trumps. */
-    private static final int[] GAME_53 = {
-        2, 0, 4, 1, 3, 8, 6, 17, 10, 21, 9, 26, 14, 11, 7, 12, 25, 15, 28, 18, 30, 19,
-        32, 16, 22, 20, 23, 5, 24, 34, 13, 31, 27, 35, 36, 33, 29, 37, 40, 38, 39, 41};
-
-    /** Mildew is turned up, so provenance 0 is trumps; the last trick is of mildew alone. */
-    private static final int[] GAME_68 = {
-        39, 33, 20, 32, 16, 38, 22, 30, 23, 36, 21, 28, 12, 27, 34, 24, 14, 19, 31, 18,
-        10, 35, 9, 17, 13, 15, 26, 29, 37, 11, 25, 8, 6, 7, 5, 3, 1, 4, 0, 2, 40, 41};
 
     private PromiseTests() {
     }
@@ -63,19 +39,6 @@ public final class PromiseTests {
         bestRefuses();
         won();
         Checks.end("PromiseTests");
-    }
-
-    private static ArchivistTricks after(long seed, int[] game, int count) {
-        ArchivistTricks x = new ArchivistTricks();
-        x.deal(seed);
-        playOn(x, game, 0, count);
-        return x;
-    }
-
-    private static void playOn(ArchivistTricks x, int[] game, int from, int to) {
-        for (int i = from; i < to; i++) {
-            x.play(game[i]);
-        }
     }
 
     private static void hand(String what, ArchivistTricks x, int archivist, int... want) {
@@ -142,7 +105,7 @@ public final class PromiseTests {
         ArchivistTricks x = new ArchivistTricks();
         x.deal(18L);
         x.putOnGloves();
-        playOn(x, GAME_18, 0, 32);
+        Game.OF_18.playOn(x, 0, 32);
         x.putOnGloves();
         x.play(35);
         Checks.due("a game begins anew", 1, x.deal(18L));
@@ -160,7 +123,7 @@ public final class PromiseTests {
         for (int card = 0; card < 42; card++) {
             Checks.due("given up: nothing is led or taken", true, x.placeOf(card) <= 2);
         }
-        playOn(x, GAME_18, 0, 42);
+        Game.OF_18.playOn(x, 0, 42);
         Checks.due("given up, played again: wonBySecond()", 1, x.wonBySecond());
     }
 
@@ -170,8 +133,8 @@ public final class PromiseTests {
         // Who takes each trick of that game.
         int[] takers = {1, 1, 1, 0, 0, 0, 1, 1, 0, 1, 1, 1, 1, 1, 0, 1, 1, 1, 1, 0, 0};
         for (int trick = 0; trick < takers.length; trick++) {
-            Checks.due("play to lead", -1, x.play(GAME_18[2 * trick]));
-            Checks.due("play to take", takers[trick], x.play(GAME_18[2 * trick + 1]));
+            Checks.due("play to lead", -1, x.play(Game.OF_18.moves[2 * trick]));
+            Checks.due("play to take", takers[trick], x.play(Game.OF_18.moves[2 * trick + 1]));
             boolean over = trick == takers.length - 1;
             Checks.due("who takes leads", over ? -1 : takers[trick], x.turn());
         }
@@ -179,7 +142,7 @@ public final class PromiseTests {
     }
 
     private static void playRefuses() {
-        ArchivistTricks x = after(18L, GAME_18, 14);
+        ArchivistTricks x = Game.OF_18.after(14);
         for (int card : new int[] {-1, 42, Integer.MIN_VALUE, Integer.MAX_VALUE, 64, 63}) {
             Checks.throwing("play(" + card + ")", NO_CARD, () -> x.play(card));
         }
@@ -191,17 +154,17 @@ public final class PromiseTests {
         hand("refused", x, 1, 20, 30, 31, 35, 36, 41);
         Checks.due("refused: turn()", 1, x.turn());
         Checks.due("refused: led()", -1, x.led());
-        playOn(x, GAME_18, 14, 31);
+        Game.OF_18.playOn(x, 14, 31);
         Checks.throwing("not a trump", NOT_NOW, () -> x.play(35));
-        playOn(x, GAME_18, 31, 33);
+        Game.OF_18.playOn(x, 31, 33);
         Checks.throwing("not what is led", NOT_NOW, () -> x.play(27));
-        playOn(x, GAME_18, 33, 42);
+        Game.OF_18.playOn(x, 33, 42);
         Checks.throwing("play when it is over", NOT_NOW, () -> x.play(41));
         Checks.throwing("no card when it is over", NO_CARD, () -> x.play(42));
     }
 
     private static void whoTakes() {
-        ArchivistTricks x = after(18L, GAME_18, 0);
+        ArchivistTricks x = Game.OF_18.after(0);
         x.play(4);
         Checks.due("a trump takes another provenance", 1, x.play(18));
         x.play(0);
@@ -210,38 +173,38 @@ public final class PromiseTests {
         Checks.due("a trump that was led takes", 1, x.play(9));
         x.play(16);
         Checks.due("the older trump takes", 0, x.play(12));
-        playOn(x, GAME_18, 8, 20);
+        Game.OF_18.playOn(x, 8, 20);
         Checks.due("of two without a trump the led one takes", 20, x.play(7) == -1 ? 20 : 0);
         Checks.due("though the other one is of any date", 1, x.play(24));
-        playOn(x, GAME_18, 22, 38);
+        Game.OF_18.playOn(x, 22, 38);
         x.play(40);
         Checks.due("a dated card takes mildew that was led", 0, x.play(28));
         x.play(29);
         Checks.due("mildew takes nothing that is dated", 0, x.play(41));
-        ArchivistTricks y = after(68L, GAME_68, 41);
+        ArchivistTricks y = Game.OF_68.after(41);
         Checks.due("mildew that was led takes mildew", 1, y.play(41));
     }
 
     private static void drawing() {
-        ArchivistTricks x = after(18L, GAME_18, 2);
+        ArchivistTricks x = Game.OF_18.after(2);
         // 0 and 9 lie on top; the archivist 1 took the trick.
         hand("one trick", x, 0, 8, 9, 12, 15, 25, 37);
         hand("one trick", x, 1, 0, 19, 26, 30, 31, 36);
-        playOn(x, GAME_18, 2, 8);
+        Game.OF_18.playOn(x, 2, 8);
         // The archivist 0 took the fourth trick and draws 38, 1 draws 21.
         hand("four tricks", x, 0, 15, 23, 25, 27, 37, 38);
         hand("four tricks", x, 1, 21, 26, 30, 31, 35, 36);
-        playOn(x, GAME_18, 8, 30);
+        Game.OF_18.playOn(x, 8, 30);
         // The card that was turned up, 14, is the last.
         hand("the pile is empty", x, 0, 25, 27, 28, 29, 37, 38);
         hand("the pile is empty", x, 1, 14, 35, 36, 39, 40, 41);
-        playOn(x, GAME_18, 30, 32);
+        Game.OF_18.playOn(x, 30, 32);
         hand("nothing is drawn", x, 0, 27, 28, 29, 37, 38);
         hand("nothing is drawn", x, 1, 35, 36, 39, 40, 41);
     }
 
     private static void gloves() {
-        ArchivistTricks x = after(18L, GAME_18, 0);
+        ArchivistTricks x = Game.OF_18.after(0);
         Checks.due("the leader puts gloves on", 0, x.putOnGloves());
         Checks.due("on: gloves(0)", 1, x.gloves(0));
         Checks.due("not on: gloves(1)", 0, x.gloves(1));
@@ -263,7 +226,7 @@ public final class PromiseTests {
         Checks.due("on: gloves(1)", 1, x.gloves(1));
         x.play(21);
         Checks.due("gone: gloves(1)", 2, x.gloves(1));
-        ArchivistTricks y = after(18L, GAME_18, 41);
+        ArchivistTricks y = Game.OF_18.after(41);
         Checks.due("gloves at the last card", 1, y.putOnGloves());
         y.play(41);
         Checks.due("gone when it is over", 2, y.gloves(1));
@@ -274,17 +237,17 @@ public final class PromiseTests {
     }
 
     private static void glovesAndMildew() {
-        ArchivistTricks x = after(68L, GAME_68, 40);
+        ArchivistTricks x = Game.OF_68.after(40);
         Checks.due("ahead of mildew: points(1)", 206, x.points(1));
         x.putOnGloves();
-        playOn(x, GAME_68, 40, 42);
+        Game.OF_68.playOn(x, 40, 42);
         Checks.due("two of mildew with gloves: points(1)", 206, x.points(1));
-        ArchivistTricks y = after(68L, GAME_68, 41);
+        ArchivistTricks y = Game.OF_68.after(41);
         Checks.due("the other one's gloves", 0, y.putOnGloves());
         y.play(41);
         Checks.due("the other one's gloves do not help: points(1)", 196, y.points(1));
         Checks.due("they do not go to his account: points(0)", 14, y.points(0));
-        ArchivistTricks z = after(18L, GAME_18, 39);
+        ArchivistTricks z = Game.OF_18.after(39);
         z.putOnGloves();
         z.play(28);
         Checks.due("mildew worth nothing, the dated card all: points(0)", 74, z.points(0));
@@ -294,11 +257,11 @@ public final class PromiseTests {
     }
 
     private static void glovesRefused() {
-        ArchivistTricks x = after(18L, GAME_18, 0);
+        ArchivistTricks x = Game.OF_18.after(0);
         x.putOnGloves();
         Checks.throwing("gloves are on", NOT_NOW, () -> x.putOnGloves());
         Checks.due("still on", 1, x.gloves(0));
-        playOn(x, GAME_18, 0, 42);
+        Game.OF_18.playOn(x, 0, 42);
         Checks.throwing("gloves when it is over", NOT_NOW, () -> x.putOnGloves());
         Checks.due("refused when it is over: gloves(1)", 0, x.gloves(1));
         x.deal(1L);
@@ -310,21 +273,21 @@ public final class PromiseTests {
         for (int card : new int[] {-1, 42, Integer.MIN_VALUE, Integer.MAX_VALUE, 64, -22}) {
             Checks.throwing("whyNot(" + card + ")", NO_CARD, () -> x.whyNot(card));
         }
-        ArchivistTricks y = after(18L, GAME_18, 42);
+        ArchivistTricks y = Game.OF_18.after(42);
         for (int card = 0; card < 42; card++) {
             Checks.due("over: whyNot(" + card + ")", 1, y.whyNot(card));
         }
     }
 
     private static void whyNotWithPile() {
-        ArchivistTricks x = after(18L, GAME_18, 0);
+        ArchivistTricks x = Game.OF_18.after(0);
         Checks.due("own: whyNot(4)", 0, x.whyNot(4));
         Checks.due("the other one's: whyNot(18)", 2, x.whyNot(18));
         Checks.due("in the pile: whyNot(0)", 2, x.whyNot(0));
         Checks.due("not held mildew: whyNot(41)", 2, x.whyNot(41));
         x.play(4);
         Checks.due("led: whyNot(4)", 2, x.whyNot(4));
-        playOn(x, GAME_18, 1, 13);
+        Game.OF_18.playOn(x, 1, 13);
         Checks.due("mildew as a reply: whyNot(41)", 0, x.whyNot(41));
         x.play(11);
         Checks.due("mildew led: whyNot(41)", 3, x.whyNot(41));
@@ -339,13 +302,13 @@ public final class PromiseTests {
         y.play(9);
         Checks.due("need not follow: whyNot(10)", 0, y.whyNot(10));
         Checks.due("may follow: whyNot(6)", 0, y.whyNot(6));
-        ArchivistTricks z = after(18L, GAME_18, 29);
+        ArchivistTricks z = Game.OF_18.after(29);
         // 34 is led with the last two cards in the pile; 37 and 38 could follow.
         Checks.due("the last with a pile: whyNot(25)", 0, z.whyNot(25));
     }
 
     private static void whyNotAtTheEnd() {
-        ArchivistTricks x = after(18L, GAME_18, 31);
+        ArchivistTricks x = Game.OF_18.after(31);
         // 25 is led; 14 is the only trump, and nothing of 20 to 29 is there.
         Checks.due("a trump: whyNot(14)", 0, x.whyNot(14));
         Checks.due("no trump: whyNot(35)", 5, x.whyNot(35));
@@ -355,7 +318,7 @@ public final class PromiseTests {
         x.play(35);
         Checks.due("follows: whyNot(37)", 0, x.whyNot(37));
         Checks.due("does not follow: whyNot(27)", 4, x.whyNot(27));
-        playOn(x, GAME_18, 33, 37);
+        Game.OF_18.playOn(x, 33, 37);
         Checks.due("neither to follow nor a trump: whyNot(27)", 0, x.whyNot(27));
         Checks.due("neither to follow nor a trump: whyNot(29)", 0, x.whyNot(29));
         x.play(27);
@@ -364,26 +327,26 @@ public final class PromiseTests {
         x.play(40);
         Checks.due("anything to mildew: whyNot(28)", 0, x.whyNot(28));
         Checks.due("anything to mildew: whyNot(29)", 0, x.whyNot(29));
-        ArchivistTricks y = after(68L, GAME_68, 31);
+        ArchivistTricks y = Game.OF_68.after(31);
         // 25 is led, provenance 0 is trumps; the archivist 0 has 2 4 5 6 8 41.
         Checks.due("mildew for a trump: whyNot(41)", 5, y.whyNot(41));
-        playOn(y, GAME_68, 31, 33);
+        Game.OF_68.playOn(y, 31, 33);
         // 6 is led; the archivist 1 has 0 1 3 7 40.
         Checks.due("mildew to follow trumps: whyNot(40)", 4, y.whyNot(40));
         Checks.due("a trump to follow: whyNot(7)", 0, y.whyNot(7));
-        ArchivistTricks w = after(28L, GAME_28, 39);
+        ArchivistTricks w = Game.OF_28.after(39);
         // 41 is led; the archivist 1 has 1 and 12.
         Checks.due("a trump to mildew: whyNot(1)", 0, w.whyNot(1));
         Checks.due("no trump to mildew: whyNot(12)", 0, w.whyNot(12));
         Checks.due("anything to mildew: choices()", 2, w.choices());
-        ArchivistTricks z = after(53L, GAME_53, 31);
+        ArchivistTricks z = Game.OF_53.after(31);
         // 13 is led, provenance 3 is trumps; the archivist 0 has 27 29 31 33 38 39.
         Checks.due("no trump: whyNot(27)", 5, z.whyNot(27));
         Checks.due("any trump: whyNot(39)", 0, z.whyNot(39));
     }
 
     private static void isPlayingTurnAndLed() {
-        ArchivistTricks x = after(18L, GAME_18, 0);
+        ArchivistTricks x = Game.OF_18.after(0);
         Checks.due("dealt: isPlaying()", true, x.isPlaying());
         Checks.due("dealt: turn()", 0, x.turn());
         Checks.due("dealt: led()", -1, x.led());
@@ -396,7 +359,7 @@ public final class PromiseTests {
         x.play(0);
         Checks.due("the card 0 is led", 0, x.led());
         Checks.due("the other one replies", 0, x.turn());
-        playOn(x, GAME_18, 3, 41);
+        Game.OF_18.playOn(x, 3, 41);
         Checks.due("one card is left: isPlaying()", true, x.isPlaying());
         Checks.due("one card is left: turn()", 1, x.turn());
         x.play(41);
@@ -408,25 +371,25 @@ public final class PromiseTests {
     }
 
     private static void trumps() {
-        ArchivistTricks x = after(53L, GAME_53, 0);
+        ArchivistTricks x = Game.OF_53.after(0);
         Checks.due("trumps()", 3, x.trumps());
-        playOn(x, GAME_53, 0, 42);
+        Game.OF_53.playOn(x, 0, 42);
         Checks.due("over: trumps()", 3, x.trumps());
         x.deal(68L);
         Checks.due("mildew turned up: trumps()", 0, x.trumps());
     }
 
     private static void pile() {
-        ArchivistTricks x = after(18L, GAME_18, 0);
+        ArchivistTricks x = Game.OF_18.after(0);
         for (int i = 0; i < 42; i++) {
             Checks.due("pile() after " + i, Math.max(0, 30 - i / 2 * 2), x.pile());
-            x.play(GAME_18[i]);
+            x.play(Game.OF_18.moves[i]);
         }
         Checks.due("over: pile()", 0, x.pile());
     }
 
     private static void cards() {
-        ArchivistTricks x = after(18L, GAME_18, 0);
+        ArchivistTricks x = Game.OF_18.after(0);
         x.play(4);
         Checks.due("one is led: cards(0)", 5, x.cards(0));
         Checks.due("one is led: cards(1)", 6, x.cards(1));
@@ -440,17 +403,17 @@ public final class PromiseTests {
             Checks.throwing("cards(" + wrong + ")", NOBODY, () -> x.cards(wrong));
             Checks.throwing("cardAt(" + wrong + ", 0)", NOBODY, () -> x.cardAt(wrong, 0));
         }
-        ArchivistTricks y = after(68L, GAME_68, 40);
+        ArchivistTricks y = Game.OF_68.after(40);
         hand("mildew is left", y, 0, 41);
         hand("mildew is left", y, 1, 40);
-        playOn(y, GAME_68, 40, 42);
+        Game.OF_68.playOn(y, 40, 42);
         hand("over", y, 0);
         hand("over", y, 1);
         Checks.throwing("over: cardAt(0, 0)", NOBODY, () -> y.cardAt(0, 0));
     }
 
     private static void placeOf() {
-        ArchivistTricks x = after(18L, GAME_18, 0);
+        ArchivistTricks x = Game.OF_18.after(0);
         Checks.due("placeOf(4)", 0, x.placeOf(4));
         Checks.due("placeOf(18)", 1, x.placeOf(18));
         Checks.due("on the pile: placeOf(0)", 2, x.placeOf(0));
@@ -462,10 +425,10 @@ public final class PromiseTests {
         Checks.due("taken by 1: placeOf(18)", 5, x.placeOf(18));
         Checks.due("drawn by 1: placeOf(0)", 1, x.placeOf(0));
         Checks.due("drawn by 0: placeOf(9)", 0, x.placeOf(9));
-        playOn(x, GAME_18, 2, 8);
+        Game.OF_18.playOn(x, 2, 8);
         Checks.due("taken by 0: placeOf(16)", 4, x.placeOf(16));
         Checks.due("taken by 0: placeOf(12)", 4, x.placeOf(12));
-        playOn(x, GAME_18, 8, 42);
+        Game.OF_18.playOn(x, 8, 42);
         for (int card = 0; card < 42; card++) {
             Checks.due("over: all is taken", true, x.placeOf(card) >= 4);
         }
@@ -477,20 +440,20 @@ public final class PromiseTests {
     }
 
     private static void pointsAndTricks() {
-        ArchivistTricks x = after(18L, GAME_18, 1);
+        ArchivistTricks x = Game.OF_18.after(1);
         Checks.due("nothing is taken: points(0)", 0, x.points(0));
         x.play(18);
         Checks.due("4 and 18: points(1)", 8, x.points(1));
         Checks.due("4 and 18: points(0)", 0, x.points(0));
         Checks.due("4 and 18: tricks(1)", 1, x.tricks(1));
-        playOn(x, GAME_18, 2, 4);
+        Game.OF_18.playOn(x, 2, 4);
         Checks.due("0 and 8 too: points(1)", 20, x.points(1));
-        playOn(x, GAME_18, 4, 38);
+        Game.OF_18.playOn(x, 4, 38);
         Checks.due("late: points(0)", 72, x.points(0));
         Checks.due("late: points(1)", 145, x.points(1));
-        playOn(x, GAME_18, 38, 40);
+        Game.OF_18.playOn(x, 38, 40);
         Checks.due("mildew and 28: points(0)", 69, x.points(0));
-        playOn(x, GAME_18, 40, 42);
+        Game.OF_18.playOn(x, 40, 42);
         Checks.due("over: points(0)", 65, x.points(0));
         Checks.due("over: points(1)", 145, x.points(1));
         Checks.due("over: tricks(0)", 7, x.tricks(0));
@@ -513,19 +476,19 @@ public final class PromiseTests {
     }
 
     private static void choices() {
-        ArchivistTricks x = after(18L, GAME_18, 0);
+        ArchivistTricks x = Game.OF_18.after(0);
         int[] want = {
             6, 6, 6, 6, 6, 6, 6, 6, 6, 6, 6, 6, 6, 6, 5, 6, 4, 6, 6, 6, 4, 6,
             4, 6, 4, 6, 4, 6, 4, 6, 6, 1, 3, 2, 2, 1, 1, 3, 2, 2, 1, 1};
         for (int i = 0; i < want.length; i++) {
             Checks.due("choices() after " + i, want[i], x.choices());
-            x.play(GAME_18[i]);
+            x.play(Game.OF_18.moves[i]);
         }
         Checks.due("over: choices()", 0, x.choices());
     }
 
     private static void wouldTake() {
-        ArchivistTricks x = after(18L, GAME_18, 30);
+        ArchivistTricks x = Game.OF_18.after(30);
         x.play(25);
         // Provenance 1 is trumps; the archivist 0 led 25.
         Checks.due("older, taken: wouldTake(24)", 1, x.wouldTake(24));
@@ -537,12 +500,12 @@ public final class PromiseTests {
         Checks.due("another provenance: wouldTake(0)", 0, x.wouldTake(0));
         Checks.due("another provenance: wouldTake(39)", 0, x.wouldTake(39));
         Checks.due("mildew: wouldTake(40)", 0, x.wouldTake(40));
-        playOn(x, GAME_18, 31, 38);
+        Game.OF_18.playOn(x, 31, 38);
         x.play(40);
         Checks.due("mildew led: wouldTake(39)", 0, x.wouldTake(39));
         Checks.due("mildew led: wouldTake(11)", 0, x.wouldTake(11));
         Checks.due("mildew on mildew: wouldTake(41)", 1, x.wouldTake(41));
-        ArchivistTricks y = after(18L, GAME_18, 5);
+        ArchivistTricks y = Game.OF_18.after(5);
         // The archivist 1 led the trump 19.
         Checks.due("an older trump in the pile: wouldTake(10)", 0, y.wouldTake(10));
         Checks.due("no trump to a trump: wouldTake(9)", 1, y.wouldTake(9));
@@ -552,7 +515,7 @@ public final class PromiseTests {
     }
 
     private static void wouldTakeRefuses() {
-        ArchivistTricks x = after(18L, GAME_18, 0);
+        ArchivistTricks x = Game.OF_18.after(0);
         Checks.throwing("no card is led", NOT_NOW, () -> x.wouldTake(4));
         x.play(4);
         Checks.throwing("it is this one", NOT_NOW, () -> x.wouldTake(4));
@@ -561,13 +524,13 @@ public final class PromiseTests {
             Checks.throwing("new: wouldTake(" + card + ")", NO_CARD,
                     () -> new ArchivistTricks().wouldTake(card));
         }
-        playOn(x, GAME_18, 1, 42);
+        Game.OF_18.playOn(x, 1, 42);
         Checks.throwing("over: wouldTake(0)", NOT_NOW, () -> x.wouldTake(0));
     }
 
     private static void bestAfter(
-            String what, long seed, int[] game, int count, int points, int card) {
-        ArchivistTricks x = after(seed, game, count);
+            String what, Game game, int count, int points, int card) {
+        ArchivistTricks x = game.after(count);
         Checks.due(what + ": bestCard()", card, x.bestCard());
         Checks.due(what + ": best()", points, x.best());
         Checks.due(what + ": best() again", points, x.best());
@@ -585,76 +548,76 @@ public final class PromiseTests {
     }
 
     private static void best() {
-        bestAfter("six each", 18L, GAME_18, 30, -26, 28);
-        bestAfter("one choice", 18L, GAME_18, 31, 32, 14);
-        bestAfter("five each", 53L, GAME_53, 32, -4, 29);
-        bestAfter("six each, mildew on both sides", 68L, GAME_68, 30, 23, 0);
-        bestAfter("a lead to be trumped", 53L, GAME_53, 31, 20, 38);
+        bestAfter("six each", Game.OF_18, 30, -26, 28);
+        bestAfter("one choice", Game.OF_18, 31, 32, 14);
+        bestAfter("five each", Game.OF_53, 32, -4, 29);
+        bestAfter("six each, mildew on both sides", Game.OF_68, 30, 23, 0);
+        bestAfter("a lead to be trumped", Game.OF_53, 31, 20, 38);
         // 1 has 40 and 41, 0 has 28 and 29: both leads are the same, and so are both replies.
-        bestAfter("two the same to lead", 18L, GAME_18, 38, 7, 40);
-        bestAfter("two the same to reply", 18L, GAME_18, 39, -7, 28);
-        bestAfter("a trump or not to mildew", 28L, GAME_28, 39, 7, 1);
-        bestAfter("two tricks", 68L, GAME_68, 38, 8, 0);
-        bestAfter("the last but one card", 68L, GAME_68, 40, -10, 40);
-        bestAfter("the last card", 68L, GAME_68, 41, 10, 41);
-        ArchivistTricks x = after(18L, GAME_18, 31);
+        bestAfter("two the same to lead", Game.OF_18, 38, 7, 40);
+        bestAfter("two the same to reply", Game.OF_18, 39, -7, 28);
+        bestAfter("a trump or not to mildew", Game.OF_28, 39, 7, 1);
+        bestAfter("two tricks", Game.OF_68, 38, 8, 0);
+        bestAfter("the last but one card", Game.OF_68, 40, -10, 40);
+        bestAfter("the last card", Game.OF_68, 41, 10, 41);
+        ArchivistTricks x = Game.OF_18.after(31);
         x.best();
         x.deal(68L);
-        playOn(x, GAME_68, 0, 30);
+        Game.OF_68.playOn(x, 0, 30);
         Checks.due("another game: best()", 23, x.best());
         Checks.due("another game: bestCard()", 0, x.bestCard());
     }
 
     private static void bestWithGloves() {
-        ArchivistTricks x = after(68L, GAME_68, 40);
+        ArchivistTricks x = Game.OF_68.after(40);
         x.putOnGloves();
         Checks.due("gloved leader of mildew: best()", 0, x.best());
         x.play(40);
         Checks.due("against a gloved taker: best()", 0, x.best());
-        ArchivistTricks y = after(68L, GAME_68, 41);
+        ArchivistTricks y = Game.OF_68.after(41);
         y.putOnGloves();
         Checks.due("gloves of one who takes nothing: best()", 10, y.best());
-        ArchivistTricks z = after(18L, GAME_18, 39);
+        ArchivistTricks z = Game.OF_18.after(39);
         z.putOnGloves();
         // With 28 he gets 2 and then 1 - 5; the gloves are gone by then.
         Checks.due("gloves for one trick: best()", -2, z.best());
         Checks.due("gloves for one trick: bestCard()", 28, z.bestCard());
-        ArchivistTricks w = after(18L, GAME_18, 38);
+        ArchivistTricks w = Game.OF_18.after(38);
         w.putOnGloves();
         Checks.due("the loser's gloves: best()", 7, w.best());
     }
 
     private static void bestRefuses() {
-        ArchivistTricks x = after(18L, GAME_18, 29);
+        ArchivistTricks x = Game.OF_18.after(29);
         Checks.throwing("two in the pile: best()", NOT_NOW, () -> x.best());
         Checks.throwing("two in the pile: bestCard()", NOT_NOW, () -> x.bestCard());
         x.play(10);
         Checks.due("an empty pile: best()", -26, x.best());
-        playOn(x, GAME_18, 30, 42);
+        Game.OF_18.playOn(x, 30, 42);
         Checks.throwing("over: best()", NOT_NOW, () -> x.best());
         Checks.throwing("over: bestCard()", NOT_NOW, () -> x.bestCard());
     }
 
     private static void won() {
-        ArchivistTricks x = after(27L, GAME_27, 41);
+        ArchivistTricks x = Game.OF_27.after(41);
         Checks.due("one card is left: wonByFirst()", 0, x.wonByFirst());
-        x.play(GAME_27[41]);
+        x.play(Game.OF_27.moves[41]);
         Checks.due("110 to 100: wonByFirst()", 1, x.wonByFirst());
         Checks.due("110 to 100: wonBySecond()", 0, x.wonBySecond());
         x.deal(18L);
-        playOn(x, GAME_18, 0, 42);
+        Game.OF_18.playOn(x, 0, 42);
         Checks.due("65 to 145: wonByFirst()", 1, x.wonByFirst());
         Checks.due("65 to 145: wonBySecond()", 1, x.wonBySecond());
         x.deal(53L);
-        playOn(x, GAME_53, 0, 42);
+        Game.OF_53.playOn(x, 0, 42);
         Checks.due("105 to 105: points(0)", 105, x.points(0));
         Checks.due("105 to 105: points(1)", 105, x.points(1));
         Checks.due("105 to 105: wonByFirst()", 1, x.wonByFirst());
         Checks.due("105 to 105: wonBySecond()", 1, x.wonBySecond());
         x.deal(68L);
-        playOn(x, GAME_68, 0, 30);
+        Game.OF_68.playOn(x, 0, 30);
         x.deal(27L);
-        playOn(x, GAME_27, 0, 42);
+        Game.OF_27.playOn(x, 0, 42);
         Checks.due("one was given up: wonByFirst()", 2, x.wonByFirst());
         Checks.due("one was given up: wonBySecond()", 1, x.wonBySecond());
         Checks.due("won by points, not by tricks: tricks(0)", 8, x.tricks(0));
