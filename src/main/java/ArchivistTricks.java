@@ -253,9 +253,14 @@ public final class ArchivistTricks {
         long s = seed;
         for (int k = CARDS - 1; k >= 1; k--) {
             s = s * SEED_FACTOR + SEED_ADDEND;
-            int other = (int) ((s >>> SEED_SHIFT) % (k + 1));
-            int card = row[k];
-            row[k] = row[other];
+            exchange(k, (int) ((s >>> SEED_SHIFT) % (k + 1)));
+        }
+    }
+
+    private void exchange(int place, int other) {
+        if (place >= 0 && place < CARDS && other >= 0 && other < CARDS) {
+            int card = row[place];
+            row[place] = row[other];
             row[other] = card;
         }
     }
@@ -386,7 +391,7 @@ public final class ArchivistTricks {
     }
 
     private static boolean has(long set, int card) {
-        return (set & bit(card)) != 0L;
+        return (set >>> card & 1L) != 0L;
     }
 
     private static long allOf(int provenance) {
